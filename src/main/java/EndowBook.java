@@ -583,10 +583,11 @@ public final class EndowBook {
     }
 
     private void goBy() {
+        kin.wake(now, AS_TAKEN);
         for (int deed = 0; deed < deedCount; deed++) {
             Deed d = deeds[deed];
             if (d != null) {
-                splitNow(d, deed);
+                split.reckon(kin, d, things.yieldOf(deed), now);
                 payOut(d);
             }
         }
@@ -641,7 +642,6 @@ public final class EndowBook {
         void settle(int p, int deathYear) {
             died[p] = deathYear;
             unsure[p] = false;
-            takenToLive[p] = false;
         }
 
         void doubt(int p) {
@@ -723,7 +723,7 @@ public final class EndowBook {
         }
 
         void addLine(int root) {
-            if (!has(root)) {
+            if (root < 0 || root >= size) {
                 return;
             }
             inLine[root] = true;
@@ -846,8 +846,9 @@ public final class EndowBook {
             return true;
         }
 
+        /** The same for all years from first on; no lease begins behind LAST_YEAR. */
         boolean isFreeFrom(int thing, int first) {
-            return isFree(thing, first, Integer.MAX_VALUE);
+            return isFree(thing, first, LAST_YEAR + 1);
         }
 
         int holding() {

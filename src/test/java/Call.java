@@ -1,5 +1,9 @@
+import java.lang.reflect.Method;
+import java.lang.reflect.Modifier;
 import java.util.ArrayList;
+import java.util.HashMap;
 import java.util.List;
+import java.util.Map;
 import java.util.Random;
 
 /** One call of the face with its arguments, which a book and a model can take. */
@@ -9,6 +13,7 @@ final class Call {
         "deed", "end", "yields", "manager", "left", "gets", "due", "share", "bound", "run", "account", "lease",
         "leased", "law", "swap", "count", "lay", "tear", "row", "copy", "status",
     };
+    private static final Map<Class<?>, Map<String, Method>> METHODS = new HashMap<>();
     private static final int[] FAR = {
         Integer.MIN_VALUE, Integer.MIN_VALUE + 1, -1000, -10, -3, -2, -1, 0, 1, 2, 3, 4, 5, 6, 7, 8, 9, 10, 11, 12, 13,
         29, 30, 31, 99, 100, 101, 120, 600, 700, 701, 9999, 10000, Integer.MAX_VALUE - 1, Integer.MAX_VALUE,
@@ -80,8 +85,15 @@ final class Call {
         }
     }
 
-    /** The calls that put a text on an empty tape and read it. */
+    /** The calls that wipe the tape, put a text on it and read it. */
     static List<Call> reading(String text) {
+        List<Call> calls = feeding(text);
+        calls.add(new Call("deed", 0, 0, 0, false));
+        return calls;
+    }
+
+    /** The calls that wipe the tape and put a text on it. */
+    static List<Call> feeding(String text) {
         List<Call> calls = new ArrayList<>();
         calls.add(new Call("wipe", 0, 0, 0, false));
         for (int place = 0; place < text.length(); place += 4) {
@@ -92,83 +104,32 @@ final class Call {
             }
             calls.add(new Call("feed", bytes, n, 0, false));
         }
-        calls.add(new Call("deed", 0, 0, 0, false));
         return calls;
     }
 
-    long on(EndowBook x) {
-        switch (name) {
-            case "person": return x.person(a, b);
-            case "death": return x.death(a, b);
-            case "unknown": return x.unknown(a, b);
-            case "taken": return x.taken(a, b);
-            case "look": return x.look(a, b);
-            case "thing": return x.thing(a, b);
-            case "tell": return x.tell(a, b, c);
-            case "ruin": return x.ruin(a, b);
-            case "part": return x.part(a, b, c);
-            case "parts": return x.parts(a, b);
-            case "feed": return x.feed(a, b);
-            case "wipe": return x.wipe();
-            case "deed": return x.deed();
-            case "end": return x.end(a, b, c);
-            case "yields": return x.yields(a);
-            case "manager": return x.manager(a);
-            case "left": return x.left(a);
-            case "gets": return x.gets(a, b);
-            case "due": return x.due(a, b);
-            case "share": return x.share(a, b, c, is);
-            case "bound": return x.bound(a, b, is);
-            case "run": return x.run(a);
-            case "account": return x.account(a, is);
-            case "lease": return x.lease(a, b, c, is);
-            case "leased": return x.leased(a, b);
-            case "law": return x.law(a);
-            case "swap": return x.swap(a, b, is);
-            case "count": return x.count(a);
-            case "lay": return x.lay(a);
-            case "tear": return x.tear();
-            case "row": return x.row(a);
-            case "copy": return x.copy(a, b, c);
-            default: return x.status(a);
+    /** The answer of a book or of a model, whose methods bear the same names. */
+    long on(Object taker) {
+        Method method = METHODS.computeIfAbsent(taker.getClass(), Call::byName).get(name);
+        Class<?>[] types = method.getParameterTypes();
+        int[] numbers = {a, b, c};
+        Object[] arguments = new Object[types.length];
+        for (int k = 0; k < types.length; k++) {
+            arguments[k] = types[k] == boolean.class ? (Object) is : (Object) numbers[k];
+        }
+        try {
+            return ((Number) method.invoke(taker, arguments)).longValue();
+        } catch (ReflectiveOperationException e) {
+            throw new IllegalStateException(this.toString(), e);
         }
     }
 
-    long on(Model x) {
-        switch (name) {
-            case "person": return x.person(a, b);
-            case "death": return x.death(a, b);
-            case "unknown": return x.unknown(a, b);
-            case "taken": return x.taken(a, b);
-            case "look": return x.look(a, b);
-            case "thing": return x.thing(a, b);
-            case "tell": return x.tell(a, b, c);
-            case "ruin": return x.ruin(a, b);
-            case "part": return x.part(a, b, c);
-            case "parts": return x.parts(a, b);
-            case "feed": return x.feed(a, b);
-            case "wipe": return x.wipe();
-            case "deed": return x.deed();
-            case "end": return x.end(a, b, c);
-            case "yields": return x.yields(a);
-            case "manager": return x.manager(a);
-            case "left": return x.left(a);
-            case "gets": return x.gets(a, b);
-            case "due": return x.due(a, b);
-            case "share": return x.share(a, b, c, is);
-            case "bound": return x.bound(a, b, is);
-            case "run": return x.run(a);
-            case "account": return x.account(a, is);
-            case "lease": return x.lease(a, b, c, is);
-            case "leased": return x.leased(a, b);
-            case "law": return x.law(a);
-            case "swap": return x.swap(a, b, is);
-            case "count": return x.count(a);
-            case "lay": return x.lay(a);
-            case "tear": return x.tear();
-            case "row": return x.row(a);
-            case "copy": return x.copy(a, b, c);
-            default: return x.status(a);
+    private static Map<String, Method> byName(Class<?> taker) {
+        Map<String, Method> methods = new HashMap<>();
+        for (Method method : taker.getDeclaredMethods()) {
+            if (!Modifier.isPrivate(method.getModifiers())) {
+                methods.put(method.getName(), method);
+            }
         }
+        return methods;
     }
 }

@@ -25,14 +25,8 @@ final class Checks {
 
     /** The tape is wiped, then holds just the text. */
     static void feedText(EndowBook book, String text) {
-        book.wipe();
-        for (int place = 0; place < text.length(); place += 4) {
-            int n = Math.min(4, text.length() - place);
-            int bytes = 0;
-            for (int k = 0; k < n; k++) {
-                bytes = bytes << 8 | text.charAt(place + k);
-            }
-            book.feed(bytes, n);
+        for (Call call : Call.feeding(text)) {
+            call.on(book);
         }
     }
 

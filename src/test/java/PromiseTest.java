@@ -57,6 +57,7 @@ public final class PromiseTest {
         row();
         copy();
         status();
+        fullBook();
         checks.endWithExitCode("PromiseTest");
     }
 
@@ -500,8 +501,12 @@ public final class PromiseTest {
         due("above 12 in spite of a test", Checks.read(x, "line 13 p0 heads if year=9; rest a"), NO);
         due("fault ahead of no", Checks.read(x, "man 101 p7; rest x"), -27);
         due("no deed so far", x.count(3), 0);
-        Checks.feedText(x, "rest b");
-        for (int d = 0; d < 6; d++) {
+        due("a text with a test and a fault", Checks.read(x, "fix 4 a if year=99; fix 4 c; x"), -39);
+        due("a sound one then", Checks.read(x, "fix 5 b; rest a"), 0);
+        due("has no test of the other", x.end(0, 0, 5), 1);
+        due("nor its ends", x.end(0, NONE, 0), 2);
+        due("has its own number", x.end(0, 0, 1), 5);
+        for (int d = 1; d < 6; d++) {
             due("deed " + d, Checks.read(x, "rest b"), d);
         }
         due("full", Checks.read(x, "rest b"), FULL);
@@ -645,6 +650,10 @@ public final class PromiseTest {
         due("none lives", x.manager(0), NONE);
         due("nothing taken", x.gets(0, 0), 0);
         due("all to the rest", x.gets(0, 1), 916);
+        EndowBook y = family();
+        Checks.read(y, "man 15 p1; line 1 p0 stem; rest a");
+        y.run(5);
+        due("of its own line, not of the line end's", y.manager(0), 1);
         due("beyond above", x.manager(3), BEYOND);
         due("beyond below", x.manager(-1), BEYOND);
     }
@@ -687,9 +696,17 @@ public final class PromiseTest {
         due("test not so any more", x.gets(0, 2), 0);
         due("five heads of 903", x.gets(0, 1), 5 * 60);
         due("rest then", x.gets(0, 5), 1000 - 90 - 7 - 300);
+        due("a rest alone", Checks.read(x, "rest b"), 1);
+        due("a fixed one first", Checks.read(x, "fix 70 b; rest c"), 2);
+        x.thing(1, 120);
+        x.part(1, 1, 6);
+        x.part(1, 2, 6);
+        due("all of it", x.gets(1, 0), 60);
+        due("fixed one", x.gets(2, 0), 60);
+        due("nothing for the rest", x.gets(2, 1), 0);
         due("end beyond", x.gets(0, 6), BEYOND);
         due("end none", x.gets(0, NONE), BEYOND);
-        due("deed beyond", x.gets(1, 0), BEYOND);
+        due("deed beyond", x.gets(3, 0), BEYOND);
     }
 
     private static void due() {
@@ -890,6 +907,15 @@ public final class PromiseTest {
         due("year 3: h", x.account(7, true), 979);
         x.death(0, 1);
         due("what came stays", x.account(0, false), 50 + 3 * 222);
+        EndowBook y = family();
+        Checks.read(y, "fix 70 e; rest f");
+        Checks.read(y, "rest g");
+        y.part(0, 0, 6);
+        y.part(0, 1, 6);
+        y.run(2);
+        due("fixed one first", y.account(4, true), 140);
+        due("rest behind it", y.account(5, true), 860);
+        due("rest alone", y.account(6, true), 1000);
         due("no refusal", x.status(BEYOND), 0);
         due("person beyond", x.account(6, false), 0);
         due("person below", x.account(-1, false), 0);
@@ -1018,6 +1044,8 @@ public final class PromiseTest {
         due("leased now", x.swap(1, 0, true), 0);
         x.run(1);
         due("not leased any more", x.swap(1, 0, true), 1);
+        due("swapped back", x.parts(0, 0), 4);
+        due("swapped back too", x.parts(1, 1), 9);
         x.lease(0, 5, 4, false);
         due("a void one bars nothing", x.swap(1, 0, true), 1);
         x.ruin(0, 1);
@@ -1049,6 +1077,8 @@ public final class PromiseTest {
         for (int what = 0; what < want.length; what++) {
             due("count " + what, x.count(what), want[what]);
         }
+        x.death(3, 3);
+        due("one less lives", x.count(5), 2);
         due("8", x.count(8), NO);
         due("-1", x.count(-1), NO);
         due("extreme", x.count(MIN), NO);
@@ -1187,5 +1217,56 @@ public final class PromiseTest {
         due("extreme above", x.status(MAX), NO);
         due("itself refused", x.status(NO), 2 + 5);
         due("faults are not counted", x.status(BEYOND), 2);
+    }
+
+    /** With every room full no call may go astray: the last of all has its number. */
+    private static void fullBook() {
+        promise = 1;
+        EndowBook x = new EndowBook();
+        for (int p = 0; p < 30; p++) {
+            x.person(p - 1, p);
+        }
+        String[] texts = {
+            "man 100 p29; line 12 p29 stem; rest h",
+            "line 6 p0 stem; line 6 p29 heads; rest h",
+            "line 2 p0 stem; line 2 p5 heads; line 3 p29 stem; line 5 p1 heads; fix 9999 h; rest h",
+        };
+        for (int d = 0; d < 6; d++) {
+            due("deed " + d, Checks.read(x, texts[d % 3]), d);
+        }
+        for (int t = 0; t < 10; t++) {
+            due("thing " + t, x.thing(9999, 9999), t);
+            due("parts of " + t, x.part(t, 5 - t % 2, 12), 12);
+        }
+        for (int l = 0; l < 30; l++) {
+            due("lease " + l, x.lease(9, 600 + l, 1, false), l);
+        }
+        for (int p = 25; p < 30; p++) {
+            due("unknown " + p, x.unknown(p, 1), 0);
+        }
+        for (int k = 0; k < 6; k++) {
+            due("year", x.run(100), 100 + 100 * k);
+        }
+        due("all but the unknown ones live", x.count(5), 25);
+        due("line of the first", x.look(0, 6), 25);
+        due("holding", x.count(6), 30);
+        due("last lease", x.leased(29, 1), 629);
+        due("yield", x.yields(5), 5 * 9999);
+        due("left", x.left(5), 4 * 9999);
+        due("most of the last", x.bound(5, 29, true), 9999 + 4 * 9999 * 2 / (12 * 21) + 4 * 9999 * 5 / (12 * 25));
+        due("least of the last", x.bound(5, 29, false), 0);
+        due("half of the other deed", x.bound(4, 29, true), 24997);
+        due("row", x.lay(5), 30);
+        due("last of the row", x.row(29), 0);
+        due("one behind", x.row(30), BEYOND);
+        due("whole row", x.copy(0, 0, 30), 30);
+        due("swap", x.swap(8, 9, true), 0);
+        due("swap of others", x.swap(7, 8, true), 1);
+        due("parts of the other", x.parts(8, 4), 12);
+        for (int p = 0; p < 24; p++) {
+            x.death(p, p);
+        }
+        due("share down a long line", x.share(5, 0, 24, true), 1);
+        due("share of its first", x.share(5, 0, 24, false), 1);
     }
 }
