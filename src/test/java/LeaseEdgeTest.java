@@ -167,6 +167,13 @@ public final class LeaseEdgeTest {
         t.due(x, "leased 29 1", 14);
         t.due(x, "leased 30 0", BEYOND);
         t.due(x, "count 6", 15);
+        // the last one is looked at with all others
+        EndowBook y = Lines.book("thing 5 1", "thing 5 1", "thing 5 1");
+        Lines.on(y, Lines.times(29, "lease 0 0 1 true"));
+        t.due(y, "swap 1 2 true", 1);
+        t.due(y, "lease 2 0 1 true", 29);
+        t.due(y, "swap 1 2 true", 0);
+        t.due(y, "count 6", 2);
     }
 
     private static void leaseLooks() {

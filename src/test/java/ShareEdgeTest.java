@@ -126,6 +126,8 @@ public final class ShareEdgeTest {
         shareDue(x, 0, 2, 1, 3);
         shareDue(x, 0, 3, 0, 1);
         shareDue(x, 1, 2, 1, 1);
+        shareDue(x, 1, 0, 0, 1);
+        shareDue(x, 1, 1, 0, 1);
         Lines.on(x, "death 0 0");
         shareDue(x, 0, 0, 0, 1);
         shareDue(x, 0, 1, 1, 2);
@@ -282,6 +284,15 @@ public final class ShareEdgeTest {
         EndowBook z = siblings("line 12 p0 heads if alive>1; rest a", 5);
         t.due(z, "bound 0 6 false", 0);
         t.due(z, "bound 0 6 true", 600);
+        // the first person of all and the last one are among them
+        EndowBook ends = book(1200, "line 12 p0 stem; rest a", "person NONE 0");
+        Lines.on(ends, Lines.times(29, "person 0 0"));
+        Lines.on(ends, "unknown 0 1", "unknown 29 1");
+        t.due(ends, "bound 0 0 false", 0);
+        t.due(ends, "bound 0 0 true", 1200);
+        t.due(ends, "bound 0 29 true", 1200 / 29);
+        t.due(ends, "bound 0 1 true", 1200 / 28);
+        t.due(ends, "bound 0 1 false", 0);
     }
 
     private static void bornWays() {

@@ -232,6 +232,16 @@ public final class TapeEdgeTest {
     }
 
     private static void numbers() {
+        // nothing stays of a text that was no deed
+        EndowBook after = Lines.book("person NONE 0", "read fix 8 b if year=9; line 1 p0 heads if year=9; fix 2 c if year=9; x",
+            "read man 101 p0 if year=9; rest h", "read line 5 p0 stem; fix 7 c; rest d");
+        int[][] ends = {{1, 5, 0, KIND, 0, 1}, {0, 7, KIND, 2, KIND, 1}, {3, KIND, KIND, 3, KIND, 1}};
+        t.due(after, "end 0 NONE 0", 3);
+        for (int i = 0; i < 3; i++) {
+            for (int what = 0; what < 6; what++) {
+                t.due(after, "end 0 " + i + " " + what, ends[i][what]);
+            }
+        }
         EndowBook x = Lines.book("type rest a");
         t.due(x, "deed", 0);
         t.due(x, "count 4", 0);

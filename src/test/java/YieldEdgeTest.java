@@ -222,6 +222,9 @@ public final class YieldEdgeTest {
         t.due(x, "manager 0", NONE);
         Lines.on(x, "taken 2 1");
         t.due(x, "manager 0", 2);
+        // not one of a line end's line
+        EndowBook y = book(100, "man 10 p1; line 1 p0 stem; line 1 p0 heads; rest a", "person NONE 0", "person 0 0");
+        t.due(y, "manager 0", 1);
     }
 
     private static void managerBornFirst() {
@@ -333,6 +336,13 @@ public final class YieldEdgeTest {
         t.due(book(100, "man 1 p0; rest a", "person NONE 1"), "manager 0", NONE);
         t.due(book(100, "man 0 p0; rest a", "person NONE 0"), "manager 0", 0);
         t.due(book(0, "man 1 p0; rest a", "person NONE 0"), "manager 0", 0);
+        // another deed's manager says nothing
+        EndowBook two = book(100, "man 1 p0; rest a", "person NONE 0");
+        Lines.on(two, "read rest a", "read man 1 p0 if year=1; rest a");
+        t.due(two, "manager 0", 0);
+        t.due(two, "manager 1", NONE);
+        t.due(two, "manager 0", 0);
+        t.due(two, "manager 2", NONE);
         // the test of another end says nothing
         t.due(book(100, "man 1 p0; fix 1 a if year=1; rest a", "person NONE 0"), "manager 0", 0);
     }
